@@ -345,9 +345,9 @@ public final class FrequencySketches {
         }
 
         public long guess(int key) {
-            long least = Long.MAX_VALUE;
+            long least = at(0, family.column(0, key));
             // No cell is below 0, so the other rows can't change a 0.
-            for (int row = 0; row < family.rows && least > 0; row++) {
+            for (int row = 1; row < family.rows && least > 0; row++) {
                 least = Math.min(least, at(row, family.column(row, key)));
             }
             return least;

@@ -84,6 +84,11 @@ public final class AuditTest {
         due("n is another", x, 7);
         x.clear(0);
         due("cleared", x, 0);
+        x.add(0, 0, 3);
+        spoil(x, 4, "streams", "0", "careful", "cells");
+        due("one key, CAREFUL's above PLAIN's", x, 5);
+        spoil(x, 2, "streams", "0", "careful", "cells");
+        due("one key, CAREFUL's HIGH too low", x, 2);
         System.out.println(wrong == 0 ? "audit sees what is spoilt" : wrong + " answers are not as due");
         if (wrong != 0) {
             System.exit(1);

@@ -90,7 +90,7 @@ public final class FaceTest {
         }
         Matcher library = Pattern.compile("\\b(Arrays|System|Math|Long|Integer)\\.(\\w+)").matcher(code);
         while (library.find()) {
-            hold(List.of("Arrays.fill", "System.arraycopy", "Math.min", "Math.max", "Long.MAX_VALUE")
+            hold(List.of("Arrays.fill", "System.arraycopy", "Math.min", "Math.max")
                 .contains(library.group()), "no use of " + library.group());
         }
     }

@@ -22,16 +22,21 @@ public final class PromisesTest {
         return new FrequencySketches(31, 5, 3, 4);
     }
 
-    /** Stream 0 gets n = 10 to the power, all of key 1, in 5 calls for each zero beyond three. */
+    /** Stream 0 gets n = 10 to the power, all of key 1. */
     private static void fill(FrequencySketches x, int power) {
         x.add(0, 1, 1000);
         for (int i = 3; i < power; i++) {
-            x.copy(3, 0);
-            x.join(0, 0);
-            x.join(0, 0);
-            x.join(0, 3);
-            x.join(0, 0);
+            tenfold(x);
         }
+    }
+
+    /** Stream 0 is put together with itself until it is ten times what it was. */
+    private static void tenfold(FrequencySketches x) {
+        x.copy(3, 0);
+        x.join(0, 0);
+        x.join(0, 0);
+        x.join(0, 3);
+        x.join(0, 0);
         x.clear(3);
     }
 
@@ -145,6 +150,16 @@ public final class PromisesTest {
         due("n too great", x.add(0, 1, 1), -1);
         due("count", x.count(0, 1), MOST);
         due("estimate", x.estimate(0, 4, 1, 0), MOST);
+        x.clear(0);
+        x.add(0, 1, 999);
+        for (int i = 0; i < 12; i++) {
+            tenfold(x);
+            x.add(0, 2, i < 9 ? 9 : 0);
+        }
+        due("total", x.total(0), MOST - 1000);
+        due("the most by adding", x.add(0, 3, 1000), MOST);
+        due("n too great", x.add(0, 3, 1), -1);
+        due("count", x.count(0, 3), 1000);
     }
 
     /** Two keys that share one cell of two: the careful one gives less to the shared cell. */
@@ -525,6 +540,20 @@ public final class PromisesTest {
         due("the last that is kept", x.reported(299, 0), 299);
         due("its HIGH", x.reported(299, 1), 7);
         due("300 at most", x.reported(300, 0), -1);
+        x = new FrequencySketches(601, 256, 1, 1);
+        x.pair(0, 1, 0);
+        for (int k = 0; k < 150; k++) {
+            x.add(0, k, k == 149 ? 1 : 2);
+        }
+        // A key's number is that of its remainder by 256: 2 for those below 149, 1 for 149.
+        due("keys of PLAIN", x.report(0, 0, 300, false), 149 * 2 + 89 + 2);
+        due("kept", x.reported(148, 0), 148);
+        due("kept", x.reported(149, 0), 256);
+        due("kept", x.reported(297, 0), 404);
+        due("a greater one that came late", x.reported(298, 0), 512);
+        due("a greater one that came late", x.reported(299, 0), 513);
+        due("its HIGH", x.reported(299, 1), 2);
+        due("300 at most", x.reported(300, 1), -1);
         x = small();
         fill(x, 15);
         due("a product that is too great for a long", x.report(0, 0, 100000, false) > 0, true);
