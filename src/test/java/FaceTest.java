@@ -71,6 +71,8 @@ public final class FaceTest {
             hold(k.getDeclaredFields().length <= 20, k + " has few fields");
             for (Method m : k.getDeclaredMethods()) {
                 hold(m.getParameterCount() <= 7, m + " takes few parameters");
+                hold(METHODS.stream().noneMatch(told -> told.contains(" " + m.getName() + "(")),
+                    m + " has a name of its own");
             }
         }
     }

@@ -1,10 +1,13 @@
 import java.util.ArrayList;
 import java.util.List;
 import java.util.Random;
+import java.util.function.Consumer;
 
-/** Runs of 512 calls by fixed seeds, each answer held against NaiveSketches. */
+/** Runs of at most 512 calls by fixed seeds, each answer held against NaiveSketches. */
 public final class NaiveTest {
-    private static final int CALLS = 512;
+    // What an object answers later is free.
+    private static final int MOST_CALLS = 512;
+    private static final int AGAIN = 3;
     private static final int[] PRIMES = {-5, 0, 2, 3, 4, 5, 7, 11, 24, 31, 60, 97, 131, 132, 400, 1000, 5000};
     private static final int[] WIDTHS = {0, 1, 2, 3, 5, 16, 100, 256, 300};
     private static final int[] ROWS = {-1, 1, 2, 3, 5, 8, 9};
@@ -17,9 +20,11 @@ public final class NaiveTest {
     private static final int MANY_KEYS = 3;
 
     private final Random random;
-    private final FrequencySketches real;
+    private final int[] sizes;
+    private FrequencySketches real;
     private final NaiveSketches naive;
     private final List<String> calls = new ArrayList<>();
+    private final List<Consumer<FrequencySketches>> changes = new ArrayList<>();
     private final int span;
     private final int taste;
     private boolean wrong = false;
@@ -31,10 +36,15 @@ public final class NaiveTest {
         int rows = pick(ROWS);
         int counters = pick(COUNTERS);
         calls.add("new FrequencySketches(" + prime + ", " + width + ", " + rows + ", " + counters + ")");
-        real = new FrequencySketches(prime, width, rows, counters);
+        sizes = new int[] {prime, width, rows, counters};
+        real = made();
         naive = new NaiveSketches(prime, width, rows, counters);
         span = random.nextBoolean() ? naive.p : Math.min(naive.p, 1 + random.nextInt(100));
         taste = random.nextInt(TASTES);
+    }
+
+    private FrequencySketches made() {
+        return new FrequencySketches(sizes[0], sizes[1], sizes[2], sizes[3]);
     }
 
     private int pick(int[] from) {
@@ -85,7 +95,7 @@ public final class NaiveTest {
     }
 
     private void call(int kind) {
-        int s = taste == MANY_KEYS && random.nextInt(3) != 0 ? 0 : about(4);
+        int s = taste == MANY_KEYS && random.nextInt(9) != 0 ? 0 : about(4);
         int t = about(4);
         int k = key();
         switch (kind) {
@@ -94,13 +104,14 @@ public final class NaiveTest {
                 int r = about(naive.rows);
                 int a = about(naive.p);
                 int b = about(naive.p);
+                changes.add(x -> x.pair(r, a, b));
                 same("pair(" + r + ", " + a + ", " + b + ")", bit(real.pair(r, a, b)), bit(naive.pair(r, a, b)));
                 break;
             }
             case 2: { int r = about(naive.rows); same("hash(" + r + ", " + k + ")", real.hash(r, k), naive.hash(r, k)); break; }
-            case 3: same("clear(" + s + ")", bit(real.clear(s)), bit(naive.clear(s))); break;
-            case 4: same("copy(" + s + ", " + t + ")", bit(real.copy(s, t)), bit(naive.copy(s, t))); break;
-            case 5: same("join(" + s + ", " + t + ")", real.join(s, t), naive.join(s, t)); break;
+            case 3: changes.add(x -> x.clear(s)); same("clear(" + s + ")", bit(real.clear(s)), bit(naive.clear(s))); break;
+            case 4: changes.add(x -> x.copy(s, t)); same("copy(" + s + ", " + t + ")", bit(real.copy(s, t)), bit(naive.copy(s, t))); break;
+            case 5: changes.add(x -> x.join(s, t)); same("join(" + s + ", " + t + ")", real.join(s, t), naive.join(s, t)); break;
             case 6: same("total(" + s + ")", real.total(s), naive.total(s)); break;
             case 7: {
                 int q = about(5);
@@ -130,7 +141,7 @@ public final class NaiveTest {
             case 13: { int i = about(20); int w = about(2); same("reported(" + i + ", " + w + ")", real.reported(i, w), naive.reported(i, w)); break; }
             case 14: same("overcounts(" + s + ", " + k + ")", real.overcounts(s, k), naive.overcounts(s, k)); break;
             case 15: same("audit(" + s + ")", real.audit(s), naive.audit(s)); break;
-            default: { int m = times(); same("add(" + s + ", " + k + ", " + m + ")", real.add(s, k, m), naive.add(s, k, m)); break; }
+            default: { int m = times(); changes.add(x -> x.add(s, k, m)); same("add(" + s + ", " + k + ", " + m + ")", real.add(s, k, m), naive.add(s, k, m)); break; }
         }
     }
 
@@ -138,6 +149,7 @@ public final class NaiveTest {
         int q = about(5);
         int parts = random.nextInt(4) == 0 ? about(100001) : about(30);
         boolean sure = random.nextBoolean();
+        changes.add(x -> x.report(s, q, parts, sure));
         same("report(" + s + ", " + q + ", " + parts + ", " + sure + ")",
             real.report(s, q, parts, sure), naive.report(s, q, parts, sure));
     }
@@ -156,48 +168,63 @@ public final class NaiveTest {
         return rare && random.nextInt(4) != 0 ? 16 : kind;
     }
 
-    /** What the object is at its end, whole. */
-    private void compareAll() {
-        for (int s = 0; s < 4; s++) {
-            same("total(" + s + ")", real.total(s), naive.total(s));
-            for (int w = 0; w < 5; w++) {
-                same("state(" + s + ", " + w + ")", real.state(s, w), naive.state(s, w));
-            }
-            for (int i = 0; i <= naive.counters; i++) {
-                for (int w = 0; w < 3; w++) {
-                    same("counter(" + s + ", 2, " + i + ", " + w + ")", real.counter(s, 2, i, w), naive.counter(s, 2, i, w));
-                    same("counter(" + s + ", 3, " + i + ", " + w + ")", real.counter(s, 3, i, w), naive.counter(s, 3, i, w));
+    /** Calls that ask, on an object that stands as the run has left it, as many as an object may have. */
+    private void askMuch(int callsBefore) {
+        for (int i = callsBefore; i < MOST_CALLS && !wrong; i++) {
+            int s = random.nextInt(4);
+            int w = random.nextInt(3);
+            switch (random.nextInt(7)) {
+                case 0: { int what = random.nextInt(5); same("state(" + s + ", " + what + ")", real.state(s, what), naive.state(s, what)); break; }
+                case 1: {
+                    int q = 2 + random.nextInt(2);
+                    int at = random.nextInt(naive.counters + 1);
+                    same("counter(" + s + ", " + q + ", " + at + ", " + w + ")",
+                        real.counter(s, q, at, w), naive.counter(s, q, at, w));
+                    break;
                 }
-            }
-            for (int r = 0; r < naive.rows; r++) {
-                for (int c = 0; c < naive.width; c++) {
-                    same("cell(" + s + ", 0, " + r + ", " + c + ")", real.cell(s, 0, r, c), naive.cell(s, 0, r, c));
-                    same("cell(" + s + ", 1, " + r + ", " + c + ")", real.cell(s, 1, r, c), naive.cell(s, 1, r, c));
+                case 2: {
+                    int q = random.nextInt(2);
+                    int r = random.nextInt(naive.rows);
+                    int c = random.nextInt(naive.width);
+                    same("cell(" + s + ", " + q + ", " + r + ", " + c + ")", real.cell(s, q, r, c), naive.cell(s, q, r, c));
+                    break;
                 }
-            }
-            for (int k = 0; k < naive.p; k++) {
-                same("count(" + s + ", " + k + ")", real.count(s, k), naive.count(s, k));
+                case 3: { int k = key(); same("count(" + s + ", " + k + ")", real.count(s, k), naive.count(s, k)); break; }
+                case 4: { int at = random.nextInt(301); same("reported(" + at + ", " + w + ")", real.reported(at, w), naive.reported(at, w)); break; }
+                case 5: same("total(" + s + ")", real.total(s), naive.total(s)); break;
+                default: {
+                    int q = random.nextInt(5);
+                    int k = key();
+                    same("estimate(" + s + ", " + q + ", " + k + ", " + w + ")",
+                        real.estimate(s, q, k, w), naive.estimate(s, q, k, w));
+                    break;
+                }
             }
         }
-        for (int i = 0; i <= 300; i++) {
-            same("reported(" + i + ", 0)", real.reported(i, 0), naive.reported(i, 0));
-            same("reported(" + i + ", 1)", real.reported(i, 1), naive.reported(i, 1));
+    }
+
+    /** The run, then what it has left, also in new objects that only the changing calls are done to. */
+    private void run() {
+        int length = taste == MANY_KEYS ? MOST_CALLS - random.nextInt(100) : random.nextInt(MOST_CALLS + 1);
+        for (int i = 0; i < length && !wrong; i++) {
+            call(kind());
+        }
+        askMuch(length);
+        for (int i = 0; i < AGAIN && !wrong; i++) {
+            real = made();
+            changes.forEach(change -> change.accept(real));
+            askMuch(changes.size());
         }
     }
 
     public static void main(String[] args) {
-        int runs = args.length > 0 ? Integer.parseInt(args[0]) : 300;
+        int runs = args.length > 0 ? Integer.parseInt(args[0]) : 500;
         int wrong = 0;
         int gone = 0;
         int full = 0;
         for (int seed = 1; seed <= runs && wrong < 3; seed++) {
             NaiveTest run = new NaiveTest(seed);
-            for (int i = 0; i < CALLS && !run.wrong; i++) {
-                run.call(run.kind());
-            }
-            if (!run.wrong) {
-                run.compareAll();
-            }
+            run.run();
             if (run.wrong) {
                 wrong++;
                 System.out.println("seed " + seed);

@@ -12,14 +12,14 @@ public final class RoomTest {
 
     private static long run(FrequencySketches x) {
         long sum = 0;
-        for (int i = 0; i < 120; i++) {
+        for (int i = 0; i < 200; i++) {
             sum += x.add(i & 3, i * 541 % 65521, 1 + i * 7 % 1000);
         }
-        for (int i = 0; i < 300; i++) {
+        for (int i = 0; i < 70; i++) {
             sum += x.join(i & 3, i * 3 & 3) + x.audit(i & 3) + (x.copy(i & 3, i >> 2 & 3) ? 1 : 0);
         }
-        for (int i = 0; i < 92; i++) {
-            sum += x.report(i & 3, i % 5, 100000, false) + x.reported(i, 0);
+        for (int i = 0; i < 51; i++) {
+            sum += x.report(i & 3, i % 5, 100000, i % 3 == 0) + x.reported(i, 0);
         }
         return sum;
     }
