@@ -139,13 +139,18 @@ final class Edge {
     static void fill(Watched x, int key, int power) {
         x.add(0, key, 1000);
         for (int i = 3; i < power; i++) {
-            x.copy(3, 0);
-            x.join(0, 0);
-            x.join(0, 0);
-            x.join(0, 3);
-            x.join(0, 0);
+            tenfold(x);
         }
         x.clear(3);
+    }
+
+    /** Stream 0 becomes ten times what it is, by putting together; stream 3 what stream 0 was. */
+    static void tenfold(Watched x) {
+        x.copy(3, 0);
+        x.join(0, 0);
+        x.join(0, 0);
+        x.join(0, 3);
+        x.join(0, 0);
     }
 
     /** Keys from .. to - 1 come once each. */

@@ -119,25 +119,13 @@ final class EdgesOfStreams {
 
     @Says(promise = 5, sentence = "n would be above 1000000000000000.")
     static void addJustUpToTheMost() {
-        // 10^15 - 1000 is 999 times 10^12 and 999 times 10^9 and so on: 999 comes, a thousandfold each time.
         Watched x = Edge.tiny();
-        x.add(0, 1, 999);
-        for (int i = 0; i < 3; i++) {
-            for (int j = 0; j < 3; j++) {
-                x.copy(3, 0);
-                x.join(0, 0);
-                x.join(0, 0);
-                x.join(0, 3);
-                x.join(0, 0);
+        // 999, a thousandfold and 999, and so on, a thousandfold at last: 10^15 - 1000.
+        for (int i = 0; i < 12; i++) {
+            if (i % 3 == 0) {
+                x.add(0, 1, 999);
             }
-            x.add(0, 1, 999);
-        }
-        for (int j = 0; j < 3; j++) {
-            x.copy(3, 0);
-            x.join(0, 0);
-            x.join(0, 0);
-            x.join(0, 3);
-            x.join(0, 0);
+            Edge.tenfold(x);
         }
         Edge.due("n", x.total(0), Edge.MOST - 1000);
         x.copy(1, 0);
